@@ -342,9 +342,10 @@ public final class InsuredAgainstLuck {
         if (!within(what, 0, 1)) {
             return BAD;
         }
+        adjuster.seek(now, lawNow(), 0, 0);
         int best = 0;
-        int least = Integer.MAX_VALUE;
-        for (int home = 0; home < HOUSES; home++) {
+        int least = adjuster.least;
+        for (int home = 1; home < HOUSES; home++) {
             adjuster.seek(now, lawNow(), home, 0);
             if (adjuster.least < least) {
                 least = adjuster.least;
@@ -416,14 +417,11 @@ public final class InsuredAgainstLuck {
             return NOT_SO;
         }
         imagine(seed, n, false);
-        switch (what) {
-            case 0: return thought.taken;
-            case 1: return thought.happy;
-            case 2: return thought.yearsAhead;
-            default:
-                Life one = thought.lifeAt(what - 10);
-                return one == null ? NOT_SO : one.wealth;
+        Life one = thought.lifeAt(what - 10);
+        if (one != null) {
+            return one.wealth;
         }
+        return what == 0 ? thought.taken : what == 1 ? thought.happy : thought.yearsAhead;
     }
 
     public long odds(int seed, int yearsSeeds, int part) {

@@ -1,12 +1,28 @@
-/** Runs every test of the project; ends with exit code 1 if one answer is not as due. */
+/** Runs every test of the project; ends with exit code 1 if one answer is not as due. Its argument is the project's folder. */
 public final class AllTests {
     private AllTests() {
     }
 
     public static void main(String[] args) {
+        LawTest.run();
+        LivesTest.run();
+        YearsTest.run();
+        HiddenTest.run();
+        AdjusterTest.run();
+        RuinTest.run();
+        LotsTest.run();
+        ToldTest.run();
+        HostTest.run();
+        int unlooked = Due.unlooked();
+        FaceTest.run();
+        RoomTest.run();
+        SourceTest.run(args.length > 0 ? args[0] : ".");
         RandomTest.run();
+        if (unlooked != 0) {
+            System.out.println("no test looks at promise " + unlooked);
+        }
         System.out.println(Due.passed() + " passed, " + Due.failed() + " failed");
-        if (Due.failed() != 0) {
+        if (Due.failed() != 0 || unlooked != 0) {
             System.exit(1);
         }
     }
