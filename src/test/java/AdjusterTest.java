@@ -50,6 +50,15 @@ final class AdjusterTest {
         x.put(1, 2, 0);
         round(x, 0, 1, 0, 12);
         round(livingIn(), 11, 1, 0, 0);
+        // Five on one way, of whom the last ones are taken most.
+        InsuredAgainstLuck y = livingIn(1, 2, 3, 4, 5);
+        round(y, 0, 1, 45 * 15, 12345);
+        y.put(0, 2, 0);
+        y.put(1, 2, 0);
+        y.put(2, 2, 0);
+        round(y, 5, 1, 45, 54123);
+        y.put(4, 2, 100);
+        round(y, 4, 1, 90, 45123);
     }
 
     private static void ofLikeOnes() {

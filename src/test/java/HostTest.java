@@ -151,6 +151,9 @@ final class HostTest {
             Due.is(44, "taken(" + (5 + house) + ", 6)", x.taken(5 + house, 6), lives);
             Due.is(44, "taken(" + (5 + house) + ", 0)", x.taken(5 + house, 0), -13);
         }
+        x.put(1, 3, 7);
+        Due.is(44, "the second one's house", x.taken(12, 6), 1);
+        Due.is(44, "the first one", x.taken(0, 0), 0);
         int[][] wrong = {{0, -1, -2}, {0, 7, -2}, {-1, 7, -2}, {-1, 0, -12}, {17, 6, -12}, {3, 0, -11}, {4, 6, -11},
             {Integer.MAX_VALUE, 6, -12}, {Integer.MIN_VALUE, 0, -12}, {2, 0, 2}};
         for (int[] w : wrong) {

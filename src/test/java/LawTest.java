@@ -10,6 +10,7 @@ final class LawTest {
         feeds();
         readsTexts();
         placesOfFaults();
+        wordsAlmostRight();
         tooManyOpen();
         forces();
         asksTheLaw();
@@ -150,6 +151,32 @@ final class LawTest {
         fault("odds 1, 2;", 6);
     }
 
+    private static void wordsAlmostRight() {
+        String[] words = {"year", "luck", "more", "excess", "share", "much"};
+        for (String word : words) {
+            for (int i = 0; i < word.length(); i++) {
+                fault("odds 1+" + word.substring(0, i) + "z" + word.substring(i + 1) + ";", 7);
+            }
+            fault("odds 1+" + word + "s;", 7);
+            fault("odds 1+" + word.substring(1) + ";", 7);
+            fault("odds 1+" + word, 7 + word.length());
+        }
+        fault("oddz 1;", 0);
+        fault("odds 1;sixes 1;", 7);
+        fault("odds 1;sizes 1;sean 1;", 15);
+        fault("odds 1 of 1;", 7);
+        fault("odds 1 ant 1;", 7);
+        fault("odds nit 1;", 5);
+        // A tape that is full ends behind its 160th byte.
+        StringBuilder full = new StringBuilder("odds 11");
+        while (full.length() < 155) {
+            full.append("+1");
+        }
+        fault(full + "+luck", 160);
+        fault(full + "+1234", 160);
+        fault(full.substring(0, 153) + "+123456", 154);
+    }
+
     private static void tooManyOpen() {
         fault("odds ((((((1))))));", 10);
         fault("odds not not not not not not 1;", 25);
@@ -197,6 +224,7 @@ final class LawTest {
         InsuredAgainstLuck y = Calls.under("odds 0-1;sizes year*9+luck;seen 101;", 0);
         Due.is(7, "below the bound", y.asks(0, 0, 0, 0), 0);
         Due.is(7, "year and luck", y.asks(1, 0, 4107, 0), 376);
+        Due.is(7, "year 99, luck 0", y.asks(1, 0, 9900, 0), 891);
         Due.is(7, "above the bound", y.asks(2, 0, 0, 0), 100);
         Due.is(7, "sizes' bound", Calls.under("odds 0;sizes 1000;seen 0;", 0).asks(1, 0, 0, 0), 999);
         InsuredAgainstLuck z = Calls.under("odds much;sizes more*100+excess+share;seen much-900;", 53);
@@ -224,6 +252,7 @@ final class LawTest {
         reckons("7 or 0", 1);
         reckons("0 or 0", 0);
         reckons("7 and 9", 1);
+        reckons("1 and 1", 1);
         reckons("7 and 0", 0);
         reckons("1 or 0 and 0", 1);
         reckons("(1 or 0) and 0", 0);

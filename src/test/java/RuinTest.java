@@ -67,6 +67,14 @@ final class RuinTest {
         ruin(x, 4, 6, 1);
         x.put(1, 0, 999);
         ruin(x, 4, 4, 0);
+        // One by one, as many steps as lives.
+        InsuredAgainstLuck five = row(5);
+        five.put(4, 0, 49);
+        for (int l = 1; l < 5; l++) {
+            five.put(l, 1, 51);
+        }
+        ruin(five, 0, 31, 5);
+        ruin(five, 16, 31, 4);
         // In a ring of two: the second falls by the first, not by itself.
         InsuredAgainstLuck ring = row(2);
         ring.put(1, 4, 0);

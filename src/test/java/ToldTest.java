@@ -75,6 +75,16 @@ final class ToldTest {
         // Cut in each YEAR.
         parts(y, 1291467, 100, 100, 100, 100, 100, 100);
         parts(y, 426184, 100, 100, 100, 100, 100, 100, 100);
+        Calls.fill(y, 1, 2, new int[20]);
+        Due.is(32, "parts of 20 years", y.parts(1, 0) > 0 ? 1 : 0, 1);
+        Calls.fill(y, 1, 2, new int[21]);
+        Due.is(32, "parts of 21 years", y.parts(1, 0), Calls.NO);
+        InsuredAgainstLuck w = Calls.under("odds 10+year*10;sizes 100+year*10+luck;seen 0;", 0);
+        parts(w, 362880, 0, 0, 0, 0, 0, 0, 0, 0, 0);
+        parts(w, 14400000, 100, 0, 121, 0);
+        w.live(3);
+        w.put(0, 5, 0);
+        parts(w, 56000000, 110, 0, 131);
         InsuredAgainstLuck z = Calls.under("odds 100*(luck=1);sizes 100;seen 0;", 0);
         parts(z, 0, 100);
         parts(z, 0, 100, 100);
@@ -222,6 +232,14 @@ final class ToldTest {
         Due.is(37, "all of them", x.judge(3, 0), -1);
         x.put(0, 5, 1);
         Due.is(37, "by luck", x.judge(3, 0), 0);
+        InsuredAgainstLuck y = Calls.under("odds 50;sizes 100+year*10+luck;seen 0;", 0);
+        y.live(0);
+        y.put(0, 5, 3);
+        y.film(0, 0, 26, 5);
+        Calls.fill(y, 1, 2, 0, 123, 0, 144, 155);
+        Due.is(37, "by year and luck", y.parts(0, 0), y.parts(1, 0));
+        Due.is(37, "they can be so", y.judge(1, 0), -1);
+        Due.is(37, "and so can those of the film", y.judge(0, 0), -1);
         x.sheet(2, 0, 7);
         int[][] wrong = {{-1, 0, 0, 1, -2}, {4, 9, 0, 1, -2}, {2, 2, 0, 99, -5}, {2, -1, 0, 1, -5}, {2, 0, 0, -1, -7},
             {2, 0, 0, 21, -7}, {2, 0, -1, 3, -7}, {2, 0, 8, 3, -7}, {2, 0, 1, 0, -7}, {2, 0, 1048576, 20, -7}};

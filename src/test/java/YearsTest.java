@@ -48,6 +48,7 @@ final class YearsTest {
         Due.is(14, "keeps(0, 0, 1)", x.keeps(0, 0, 1), 1);
         Due.is(14, "keeps(0, 1, 0)", x.keeps(0, 1, 0), 55);
         Due.is(14, "keeps(0, 1, 1)", x.keeps(0, 1, 1), 2);
+        Due.is(14, "keeps(0, 6, 0)", x.keeps(0, 6, 0), 165);
         x.put(0, 2, 100);
         Due.is(14, "keeps, all above the excess taken", x.keeps(0, 2, 0), 10);
         InsuredAgainstLuck y = Calls.under(LESS, 0);
@@ -118,6 +119,7 @@ final class YearsTest {
         Due.is(16, "fair of 3, 27 and a half", y.fair(0, 3), 28);
         Due.is(16, "nothing is taken", Calls.under("odds 0;sizes 9;seen 0;", 0).fair(0, 6), 0);
         Due.is(16, "a little is taken", Calls.under("odds 1;sizes 12;seen 0;", 0).fair(0, 6), 1);
+        Due.is(16, "101 hundredths", Calls.under("odds 1;sizes 212;seen 0;", 0).fair(0, 1), 2);
         int[][] wrong = {{1, 1}, {-1, 1}, {0, 0}, {0, 7}};
         for (int[] w : wrong) {
             Due.is(16, "fair(" + w[0] + ", " + w[1] + ")", x.fair(w[0], w[1]), Calls.NO);
@@ -128,6 +130,7 @@ final class YearsTest {
         InsuredAgainstLuck x = Calls.under(HALF, 0);
         Due.is(17, "excess(0, 1, 0)", x.excess(0, 1, 0), 0);
         Due.is(17, "excess(0, 1, 1)", x.excess(0, 1, 1), 100);
+        Due.is(17, "excess(0, 6, 1)", x.excess(0, 6, 1), 100);
         Due.is(17, "nothing changed", x.told(0, 1), 10);
         Due.is(17, "the last one of all", Calls.under("odds 50;sizes excess;seen 0;", 0).excess(0, 3, 1), 990);
         Due.is(17, "of like ones the least", Calls.under("odds 50;sizes excess;seen 0;", 0).excess(0, 3, 0), 0);
@@ -153,6 +156,11 @@ final class YearsTest {
         Due.is(18, "who(3, 1), the gambler", y.who(3, 1), 3);
         y.put(2, 2, 52);
         Due.is(18, "who(3, 0), by the share", y.who(3, 0), 2);
+        Due.is(18, "who(6, 0), by the share", y.who(6, 0), 2);
+        // A windfall in the first YEAR counts as much as one in the next.
+        Due.is(18, "who(2, 1), alike", Calls.under("odds 50*(year=more);sizes 100;seen 0;", 0, 1).who(2, 1), 0);
+        Due.is(18, "who(2, 0), alike", Calls.under("odds 50*(year=more);sizes 100;seen 0;", 0, 1).who(2, 0), 0);
+        Due.is(18, "who(1, 1), not alike", Calls.under("odds 50*(year=more);sizes 100;seen 0;", 1, 0).who(1, 1), 1);
         // An HEIR's first is three times as great: in one YEAR 12 of 100 have it.
         InsuredAgainstLuck z = Calls.under("odds 50;sizes 100;seen 0;", 0, 58);
         z.put(1, 2, 100);
