@@ -38,6 +38,7 @@ public final class InsuredAgainstLuck {
     private int textCount = 1;
     private final Sheet[] sheets = new Sheet[MAX_SHEETS];
     private final Life guess = new Life();
+    private final Best best = new Best();
     private final Outlook outlook = new Outlook();
     private final Adjuster adjuster = new Adjuster();
     private final Lots lots = new Lots();
@@ -238,39 +239,29 @@ public final class InsuredAgainstLuck {
         if (!within(n, 1, MEAN_YEARS) || !within(goalOf, 0, 1)) {
             return NOT_SO;
         }
-        int best = 0;
-        long most = -1;
+        best.begin();
         guess.become(one);
         for (int e = 0; e <= 990; e += 10) {
             guess.excess = e;
             outlook.reckon(guess, lawNow(), now.year, n);
-            long much = goalOf == 0 ? outlook.taken : outlook.kept;
-            if (much > most) {
-                most = much;
-                best = e;
-            }
+            best.offer(e, goalOf == 0 ? outlook.taken : outlook.kept);
         }
-        return best;
+        return best.which;
     }
 
     public int who(int n, int goalOf) {
         if (!within(n, 1, MEAN_YEARS) || !within(goalOf, 0, 1)) {
             return BAD;
         }
-        int best = NONE;
-        long most = -1;
+        best.begin();
         for (int l = 0; l < now.lifeCount; l++) {
             Life one = now.lifeAt(l);
             if (one != null) {
                 outlook.reckon(one, lawNow(), now.year, n);
-                long much = goalOf == 0 ? outlook.taken : outlook.windfalls;
-                if (much > most) {
-                    most = much;
-                    best = l;
-                }
+                best.offer(l, goalOf == 0 ? outlook.taken : outlook.windfalls);
             }
         }
-        return best;
+        return best.which;
     }
 
     // ---- hidden in parts
@@ -283,16 +274,16 @@ public final class InsuredAgainstLuck {
         if (!within(much, 0, MAX_MONEY) || !within(what, 0, 1)) {
             return NOT_SO;
         }
-        int best = 1;
+        int fewest = 1;
         long least = meansOf(one, much, 1);
         for (int count = 2; count <= MAX_PARTS; count++) {
             long means = meansOf(one, much, count);
             if (means < least) {
                 least = means;
-                best = count;
+                fewest = count;
             }
         }
-        return what == 0 ? best : least;
+        return what == 0 ? fewest : least;
     }
 
     public int none(int l, int much) {
@@ -343,16 +334,16 @@ public final class InsuredAgainstLuck {
             return BAD;
         }
         adjuster.seek(now, lawNow(), 0, 0);
-        int best = 0;
+        int first = 0;
         int least = adjuster.least;
         for (int home = 1; home < HOUSES; home++) {
             adjuster.seek(now, lawNow(), home, 0);
             if (adjuster.least < least) {
                 least = adjuster.least;
-                best = home;
+                first = home;
             }
         }
-        return what == 0 ? best : least;
+        return what == 0 ? first : least;
     }
 
     // ---- ruin
@@ -369,16 +360,11 @@ public final class InsuredAgainstLuck {
         if (!within(what, 0, 1)) {
             return BAD;
         }
-        int best = NONE;
-        int most = NONE;
+        best.begin();
         for (int l = 0; l < now.lifeCount; l++) {
-            int many = Integer.bitCount(now.ruinedBy(1 << l));
-            if (many > most) {
-                most = many;
-                best = l;
-            }
+            best.offer(l, Integer.bitCount(now.ruinedBy(1 << l)));
         }
-        return what == 0 ? best : most;
+        return what == 0 ? best.which : (int) best.most;
     }
 
     public int chain(int l) {
@@ -477,18 +463,13 @@ public final class InsuredAgainstLuck {
         int sort = sortWhat / 10;
         int what = sort == 0 ? 6 : sort == 1 ? 7 : 5;
         int last = sort == 0 ? KINDS - 1 : sort == 1 ? 9 : 20;
-        int best = 0;
-        long most = -1;
+        best.begin();
         guess.become(one);
         for (int v = 0; v <= last; v++) {
             guess.change(what, v);
-            long likelihood = sheet.likelihood(guess, lawNow(), now.year);
-            if (likelihood > most) {
-                most = likelihood;
-                best = v;
-            }
+            best.offer(v, sheet.likelihood(guess, lawNow(), now.year));
         }
-        return sortWhat % 10 == 0 ? best : most;
+        return sortWhat % 10 == 0 ? best.which : best.most;
     }
 
     public long whose(int s, int what) {
@@ -496,17 +477,14 @@ public final class InsuredAgainstLuck {
         if (sheet == null || !within(what, 0, 1)) {
             return NO;
         }
-        int best = NONE;
-        long most = NONE;
+        best.begin();
         for (int l = 0; l < now.lifeCount; l++) {
             Life one = now.lifeAt(l);
-            long likelihood = one == null ? NONE : sheet.likelihood(one, lawNow(), now.year);
-            if (likelihood > most) {
-                most = likelihood;
-                best = l;
+            if (one != null) {
+                best.offer(l, sheet.likelihood(one, lawNow(), now.year));
             }
         }
-        return what == 0 ? best : most;
+        return what == 0 ? best.which : best.most;
     }
 
     public long rule(int s, int l, int what) {
@@ -515,16 +493,11 @@ public final class InsuredAgainstLuck {
         if (sheet == null || one == null || !within(what, 0, 1)) {
             return NO;
         }
-        int best = 0;
-        long most = -1;
+        best.begin();
         for (int t = 0; t < textCount; t++) {
-            long likelihood = sheet.likelihood(one, textAt(t), now.year);
-            if (likelihood > most) {
-                most = likelihood;
-                best = t;
-            }
+            best.offer(t, sheet.likelihood(one, textAt(t), now.year));
         }
-        return what == 0 ? best : most;
+        return what == 0 ? best.which : best.most;
     }
 
     public int law(int l, int n) {
@@ -535,16 +508,12 @@ public final class InsuredAgainstLuck {
         if (!within(n, 1, MEAN_YEARS)) {
             return NOT_SO;
         }
-        int best = 0;
-        long most = -1;
+        best.begin();
         for (int t = 0; t < textCount; t++) {
             outlook.reckon(one, textAt(t), now.year, n);
-            if (outlook.taken > most) {
-                most = outlook.taken;
-                best = t;
-            }
+            best.offer(t, outlook.taken);
         }
-        return best;
+        return best.which;
     }
 
     public int film(int s, int l, int set, int n) {
@@ -1011,6 +980,24 @@ public final class InsuredAgainstLuck {
                 }
             }
             return bits;
+        }
+    }
+
+    /** Of all that are offered, the first of which there is most; nothing that is offered is below 0. */
+    private static final class Best {
+        int which = NONE;
+        long most = NONE;
+
+        void begin() {
+            which = NONE;
+            most = NONE;
+        }
+
+        void offer(int one, long much) {
+            if (much > most) {
+                which = one;
+                most = much;
+            }
         }
     }
 
