@@ -5,7 +5,7 @@ public final class InsuredAgainstLuck {
     public static final int NONE = -1, BAD = -2, STATE = -3, FULL = -4;
     public static final long NO = -4611686018427387904L;
 
-    private static final int NO_LIFE = -5, NOT_SO = -7;
+    private static final int NO_SUCH = -5, NOT_SO = -7;
     private static final int NOTHING = -11, OUTSIDE = -12, UNLIKE = -13, BELOW_0 = -14;
 
     private static final int MAX_LIVES = 5, MAX_TEXTS = 6, MAX_SHEETS = 4, KINDS = 6, HOUSES = 12;
@@ -76,7 +76,7 @@ public final class InsuredAgainstLuck {
 
     public int set(int what, int v) {
         if (what < 0 || what > 1) {
-            return NO_LIFE;
+            return NO_SUCH;
         }
         if (!within(v, 0, MAX_MONEY)) {
             return NOT_SO;
@@ -145,7 +145,7 @@ public final class InsuredAgainstLuck {
     public int put(int l, int what, int v) {
         Life one = now.lifeAt(l);
         if (one == null) {
-            return NO_LIFE;
+            return NO_SUCH;
         }
         if (!now.mayPut(l, what, v)) {
             return NOT_SO;
@@ -158,7 +158,7 @@ public final class InsuredAgainstLuck {
     public int told(int l, int what) {
         Life one = now.lifeAt(l);
         if (one == null) {
-            return NO_LIFE;
+            return NO_SUCH;
         }
         return within(what, 0, 7) ? one.get(what) : NOT_SO;
     }
@@ -168,7 +168,7 @@ public final class InsuredAgainstLuck {
     public int windfall(int l, int what) {
         Life one = now.lifeAt(l);
         if (one == null) {
-            return NO_LIFE;
+            return NO_SUCH;
         }
         Text law = lawNow();
         int size = one.sizeBy(law, now.year, one.luck);
@@ -184,7 +184,7 @@ public final class InsuredAgainstLuck {
     public int claim(int l, int much) {
         Life one = now.lifeAt(l);
         if (one == null) {
-            return NO_LIFE;
+            return NO_SUCH;
         }
         return within(much, 0, MAX_MONEY) ? one.takenOf(much) : NOT_SO;
     }
@@ -234,7 +234,7 @@ public final class InsuredAgainstLuck {
     public int excess(int l, int n, int goalOf) {
         Life one = now.lifeAt(l);
         if (one == null) {
-            return NO_LIFE;
+            return NO_SUCH;
         }
         if (!within(n, 1, MEAN_YEARS) || !within(goalOf, 0, 1)) {
             return NOT_SO;
@@ -269,7 +269,7 @@ public final class InsuredAgainstLuck {
     public long hide(int l, int much, int what) {
         Life one = now.lifeAt(l);
         if (one == null) {
-            return NO_LIFE;
+            return NO_SUCH;
         }
         if (!within(much, 0, MAX_MONEY) || !within(what, 0, 1)) {
             return NOT_SO;
@@ -289,7 +289,7 @@ public final class InsuredAgainstLuck {
     public int none(int l, int much) {
         Life one = now.lifeAt(l);
         if (one == null) {
-            return NO_LIFE;
+            return NO_SUCH;
         }
         if (!within(much, 0, MAX_MONEY)) {
             return NOT_SO;
@@ -368,7 +368,7 @@ public final class InsuredAgainstLuck {
     }
 
     public int chain(int l) {
-        return now.lifeAt(l) == null ? NO_LIFE : Integer.bitCount(now.reachedFrom(l) & ~(1 << l));
+        return now.lifeAt(l) == null ? NO_SUCH : Integer.bitCount(now.reachedFrom(l) & ~(1 << l));
     }
 
     public int rings() {
@@ -442,7 +442,7 @@ public final class InsuredAgainstLuck {
             return BAD;
         }
         Life one = now.lifeAt(l);
-        return one == null ? NO_LIFE : sheet.firstImpossible(one, lawNow(), now.year);
+        return one == null ? NO_SUCH : sheet.firstImpossible(one, lawNow(), now.year);
     }
 
     public long parts(int s, int l) {
@@ -503,7 +503,7 @@ public final class InsuredAgainstLuck {
     public int law(int l, int n) {
         Life one = now.lifeAt(l);
         if (one == null) {
-            return NO_LIFE;
+            return NO_SUCH;
         }
         if (!within(n, 1, MEAN_YEARS)) {
             return NOT_SO;
@@ -523,7 +523,7 @@ public final class InsuredAgainstLuck {
         }
         Life one = now.lifeAt(l);
         if (one == null) {
-            return NO_LIFE;
+            return NO_SUCH;
         }
         if (!within(n, 0, TOLD_YEARS) || set < 0 || set >= 1 << n) {
             return NOT_SO;
