@@ -4,6 +4,8 @@ public final class AllTests {
     }
 
     public static void main(String[] args) {
+        EdgeTest.run();
+        int withoutEdges = Due.unlooked();
         LawTest.run();
         LivesTest.run();
         YearsTest.run();
@@ -13,16 +15,15 @@ public final class AllTests {
         LotsTest.run();
         ToldTest.run();
         HostTest.run();
-        int unlooked = Due.unlooked();
         FaceTest.run();
         RoomTest.run();
         SourceTest.run(args.length > 0 ? args[0] : ".");
         RandomTest.run();
-        if (unlooked != 0) {
-            System.out.println("no test looks at promise " + unlooked);
+        if (withoutEdges != 0) {
+            System.out.println("no edge is looked at of promise " + withoutEdges);
         }
         System.out.println(Due.passed() + " passed, " + Due.failed() + " failed");
-        if (Due.failed() != 0 || unlooked != 0) {
+        if (Due.failed() != 0 || withoutEdges != 0) {
             System.exit(1);
         }
     }

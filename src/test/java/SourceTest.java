@@ -7,10 +7,11 @@ import java.util.regex.Pattern;
 
 /** The class's source keeps to LANGUAGE.md, as far as its words show. */
 final class SourceTest {
-    private static final List<String> NEVER = List.of("\\btry\\b", "\\bcatch\\b", "\\bthrow\\b", "\\bfinally\\b", "->", "::", "Exact\\(",
-        "\\bsynchronized\\b", "\\bassert\\b", "\\bprotected\\b", "\\bpackage\\b", "\\brecord\\b", "\\binstanceof\\b", "\\bSystem\\.(?!arraycopy)",
-        "\\bMath\\.(?!min|max|abs)", "\\bInteger\\.(?!bitCount)", "\\bLong\\.", "\\bArrays\\.(?!fill)", "\\bdouble\\b", "\\bfloat\\b",
-        "\\bimport (?!java\\.util\\.Arrays;)", "\\bhashCode\\b", "\\btoString\\b", "\\.equals\\b", "\\bvar\\b", "for \\(;;", "while \\(true");
+    private static final List<String> NEVER = List.of("\\bfinally\\b", "\\btry \\(", "\\bcatch \\((Exception|Throwable|Error)\\b",
+        "\\bcatch \\([^)]*(ArrayIndexOutOfBounds|NullPointer|ClassCast|NegativeArraySize|ArrayStore)", "\\) ->", "[(,=] *\\w+ ->", "::", "Exact\\(",
+        "\\bsynchronized\\b", "\\bassert\\b", "\\bprotected\\b", "\\bpackage\\b", "\\bSystem\\.(?!arraycopy)", "\\bThread\\b",
+        "\\bMath\\.\\w*([rR]andom|sqrt|pow|floor\\(|ceil|round)", "\\bArrays\\.(?!copyOf|copyOfRange|fill)", "\\bString\\.",
+        "\\bimport (?!java\\.util\\.)", "\\bhashCode\\b", "\\bgetMessage\\b", "\\bnative\\b", "for \\(;;", "while \\(true");
 
     private SourceTest() {
     }
