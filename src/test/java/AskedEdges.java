@@ -24,6 +24,19 @@ final class AskedEdges {
         pairs(Scene.FULL.then("row 0 2 50 51 0", "row 1 1 0", "put 0 4 1", "put 1 4 0", "set 0 70", "put 4 0 99999"));
         pairs(new Scene("life 50 0 0", "row 0 2 0 0", "row 1 0 0 5"));
         nobodyIsLeft();
+        the512thCall();
+    }
+
+    private static void the512thCall() {
+        // An object is used for at most 512 calls: the last of them answers as the first does.
+        Scene s = new Scene("life 50 0 0", "law odds 40;sizes 999;seen 0;");
+        long run = s.play().answer("run 5 40 10");
+        int calls = Play.MOST - 1 - s.play().calls();
+        s.then(calls + " times run 5 40 10").answers(29, "run 5 40 10", run);
+        s.then(calls + " times image").answers(39, "back", 1);
+        s.then(calls + " times put 0 5 7").answers(9, "put 0 5 8", 7);
+        Scene.NEW.then((Play.MOST - 1) + " times sheet 0 2 40").answers(41, "cell 0 39 1", 1);
+        Scene.NEW.then((Play.MOST - 1) + " times text").answers(5, "text", -100);
     }
 
     private static void pairs(Scene s) {

@@ -17,5 +17,6 @@ final class EdgeTest {
         ToldEdges.run();
         HostEdges.run();
         AskedEdges.run();
+        ChangeEdges.run();
     }
 }

@@ -1,6 +1,7 @@
 /** The edges of promises 40 to 44, a sentence of the document each: sheets, and what lies where. */
 final class HostEdges {
-    private static final Scene ROWS = new Scene("row 0 2 1 2 3 4 5", "row 1 2 6 7 8", "row 2 1 9 10 11 12");
+    private static final Scene ROWS = new Scene("row 0 2 1 2 3 4 5", "row 1 2 6 7 8", "row 2 1 9 10 11 12", "image",
+        "type odds 7;sizes 8;seen 9");
 
     private HostEdges() {
     }
@@ -114,6 +115,8 @@ final class HostEdges {
         ROWS.unchanged(42, "copy 3 0 4 0 1", -2);
         ROWS.unchanged(42, "copy -1 -1 3 -1 -1", -2);
         ROWS.unchanged(42, "copy 3 0 0 0 1", -11);
+        ROWS.unchanged(42, "copy 0 0 2 0 1", -13);
+        ROWS.unchanged(42, "copy 2 0 0 0 1", -13);
         ROWS.unchanged(42, "copy 2 0 3 0 1", -11);
         ROWS.unchanged(42, "copy 3 0 2 0 1", -11);
         ROWS.unchanged(42, "copy 3 -1 3 -1 -1", -11);
@@ -179,7 +182,8 @@ final class HostEdges {
 
     private static void livesBySheets() {
         // From a place on, three by three, n of them (0 .. 5). BAD: SHEET, sort, n; -11; -13; -12.
-        Scene s = new Scene("row 0 1 59 300 11 0 0 0 10 1 1 20 2 2 30 3 3", "row 1 0 1 2 3");
+        Scene s = new Scene("row 0 1 59 300 11 0 0 0 10 1 1 20 2 2 30 3 3", "row 1 0 1 2 3", "image",
+            "type odds 7;sizes 8;seen 9");
         s.ends(43, "livesBy # 1 0 0", 0, 0, 3, -11, -2);
         s.ends(43, "livesBy 0 # 0 0", 0, -13, 2, -13, -2);
         s.ends(43, "livesBy 0 1 0 #", 0, 0, 5, 5, -2);
@@ -207,7 +211,7 @@ final class HostEdges {
 
     private static void placesOfLives() {
         // -12: what stood ahead came.
-        Scene s = new Scene("row 0 2 0 11 0 0 22 0 0");
+        Scene s = new Scene("row 0 2 0 11 0 0 22 0 0", "image", "type odds 7;sizes 8;seen 9");
         s.unchanged(43, "livesBy 0 2 -1 1", -12);
         s.unchanged(43, "livesBy 0 2 5 1", -12);
         s.unchanged(43, "livesBy 0 2 7 1", -12);

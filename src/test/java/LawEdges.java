@@ -258,6 +258,20 @@ final class LawEdges {
             faultE(key, 0);
             faultE("1+" + key, 2);
         }
+        // A KEY where another one is due.
+        String[] keys = {"odds", "sizes", "seen", "or", "and", "not"};
+        String whole = "odds 1;sizes 1;seen 1;";
+        for (String key : keys) {
+            for (int part = 0; part <= 2; part++) {
+                if (!key.equals(keys[part])) {
+                    fault(whole.replace(keys[part], key), whole.indexOf(keys[part]));
+                }
+            }
+            if (!key.equals("or") && !key.equals("and")) {
+                faultE("1 " + key + " 1", 2);
+                faultE("1<2 " + key + " 1", 4);
+            }
+        }
         for (String name : new String[] {"year", "luck", "more", "excess", "share", "much"}) {
             fineE(name);
             fault(name + " 1;", 0);
@@ -383,7 +397,12 @@ final class LawEdges {
         fault("odds 1 sizes 1;seen 1;", 7);
         fault("odds 1;sizes 1;seen 1;;", 22);
         fault("odds 1;sizes 1;seen 1; 1", 23);
-        fault("odds 1;sizes 1;seen 1;odds", 22);
+        // Whatever stands behind it can't, right behind it and behind blanks.
+        for (String behind : new String[] {"odds", "sizes", "seen", "or", "and", "not", "year", "luck", "much", "abc", "1", "12345", "00000", "(", ")",
+            ";", "+", "-", "*", "<", "=", "!", "A", "\t"}) {
+            fault("odds 1;sizes 1;seen 1;" + behind, 22);
+            fault("odds 1;sizes 1;seen 1;\n " + behind + " ", 24);
+        }
         fault("odds;", 4);
         fault(";", 0);
         fault("1", 0);

@@ -70,12 +70,12 @@ final class LivesEdges {
         int[][] so = {{0, 99999, 8}, {1, 999, 10}, {2, 100, 50}, {3, 11, 4}, {5, 99, 0}};
         for (int[] s : so) {
             String call = "put 1 " + s[0] + " ";
-            PAIR.ends(9, call + "#", 0, s[2], s[1], s[2], -7);
+            PAIR.furnished().ends(9, call + "#", 0, s[2], s[1], s[2], -7);
             PAIR.becomes(9, call + 0, s[2], "told 1 " + s[0], 0);
             PAIR.becomes(9, call + s[1], s[2], "told 1 " + s[0], s[1]);
             PAIR.then(call + s[1]).ends(9, call + "#", 0, s[1], s[1], s[1], -7);
             PAIR.then(call + s[1]).becomes(9, call + (s[1] + 1), -7, "told 1 " + s[0], s[1]);
-            PAIR.unchanged(9, call + s[2], s[2]);
+            PAIR.furnished().unchanged(9, call + s[2], s[2]);
             // Nothing else becomes so.
             for (int what = 0; what <= 7; what++) {
                 if (what != s[0]) {
@@ -85,22 +85,22 @@ final class LivesEdges {
             }
             PAIR.becomes(9, call + 1, s[2], "told 0 0", 7);
         }
-        PAIR.ends(9, "put 1 # 0", 0, 8, 5, 0, -7);
-        PAIR.ends(9, "put # 0 5", 0, 7, 1, 8, -5);
+        PAIR.furnished().ends(9, "put 1 # 0", 0, 8, 5, 0, -7);
+        PAIR.furnished().ends(9, "put # 0 5", 0, 7, 1, 8, -5);
         Scene.FULL.ends(9, "put # 0 5", 0, 10, 4, 50, -5);
         Scene.NEW.unchanged(9, "put 0 0 0", -5);
-        PAIR.unchanged(9, "put 2 6 0", -5);
-        PAIR.unchanged(9, "put -1 0 -1", -5);
-        PAIR.unchanged(9, "put 0 6 0", -7);
-        PAIR.unchanged(9, "put 0 7 0", -7);
+        PAIR.furnished().unchanged(9, "put 2 6 0", -5);
+        PAIR.furnished().unchanged(9, "put -1 0 -1", -5);
+        PAIR.furnished().unchanged(9, "put 0 6 0", -7);
+        PAIR.furnished().unchanged(9, "put 0 7 0", -7);
     }
 
     private static void insuresAnotherOne() {
         // Whom one INSURES (4; -1: none; not oneself).
-        PAIR.ends(9, "put 0 4 #", -1, -1, 1, -1, -7);
-        PAIR.beyond(9, "put 1 4 #", -1, 1, -7);
-        PAIR.unchanged(9, "put 0 4 0", -7);
-        PAIR.unchanged(9, "put 1 4 1", -7);
+        PAIR.furnished().ends(9, "put 0 4 #", -1, -1, 1, -1, -7);
+        PAIR.furnished().beyond(9, "put 1 4 #", -1, 1, -7);
+        PAIR.furnished().unchanged(9, "put 0 4 0", -7);
+        PAIR.furnished().unchanged(9, "put 1 4 1", -7);
         PAIR.becomes(9, "put 1 4 0", -1, "told 1 4", 0);
         PAIR.becomes(9, "put 1 4 0", -1, "put 1 4 -1", 0);
         PAIR.then("put 0 4 1").becomes(9, "put 0 4 0", -7, "told 0 4", 1);

@@ -14,10 +14,10 @@ final class Look {
 
     static List<String> at(Play p) {
         Look look = new Look(p);
-        look.state();
+        look.state("");
         look.sheets();
         look.ask("back");
-        look.state();
+        look.state("by the image ");
         look.texts();
         look.tape();
         look.cells();
@@ -31,14 +31,13 @@ final class Look {
     }
 
     /** What an image keeps, and how much there is of what it does not keep. */
-    private void state() {
+    private void state(String when) {
         for (int what = 0; what <= 7; what++) {
-            ask("count " + what);
+            seen.add(when + "count " + what + " = " + p.answer("count " + what));
         }
-        long lives = p.answer("count 0");
-        for (int l = 0; l < lives && l < 5; l++) {
+        for (int l = 0; l < 5; l++) {
             for (int what = 0; what <= 7; what++) {
-                ask("told " + l + " " + what);
+                seen.add(when + "told " + l + " " + what + " = " + p.answer("told " + l + " " + what));
             }
         }
     }
@@ -47,11 +46,12 @@ final class Look {
         for (int s = 0; s < 4; s++) {
             sorts[s] = -1;
             for (int sort = 0; sort <= 2; sort++) {
-                if (ask("livesBy " + s + " " + sort + " 0 0") == 0) {
+                if (p.answer("livesBy " + s + " " + sort + " 0 0") == 0) {
                     sorts[s] = sort;
                 }
             }
             sizes[s] = sorts[s] < 0 ? 0 : sizeOf(s);
+            seen.add("sort of " + s + " = " + sorts[s]);
             seen.add("size of " + s + " = " + sizes[s]);
         }
     }
@@ -125,7 +125,7 @@ final class Look {
                 wealth = "" + p.answer("told " + (p.answer("count 0") - 1) + " 0");
                 p.answer("back");
             }
-            seen.add("number " + i + " of sheet " + s + " = " + wealth);
+            seen.add("number " + i + " of " + s + " = " + wealth);
         }
     }
 }

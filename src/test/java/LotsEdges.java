@@ -73,7 +73,7 @@ final class LotsEdges {
         // YEAR 0 .. 99. BAD; FULL: YEAR is 99.
         Scene at98 = HALF.then("98 times live 0");
         at98.becomes(28, "live 0", 0, "count 1", 99);
-        Scene at99 = at98.then("live 1");
+        Scene at99 = at98.then("live 1").furnished();
         at99.unchanged(28, "live 1", -4);
         at99.unchanged(28, "live 99999", -4);
         at99.beyond(28, "live #", 0, 99999, -2);

@@ -76,6 +76,10 @@ final class Play {
         return Arrays.stream(words).skip(from).mapToInt(Integer::parseInt).toArray();
     }
 
+    int calls() {
+        return calls;
+    }
+
     long answer(String name, int... numbers) {
         calls++;
         if (calls > MOST) {

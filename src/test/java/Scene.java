@@ -10,7 +10,7 @@ final class Scene {
         "type odds 7;sizes 8;seen 9");
     /** Room for nothing more: five LIVES, six TEXTS, 160 bytes. */
     static final Scene FULL = new Scene("life 0 10 0", "life 11 20 3", "life 22 30 6", "life 33 40 9", "life 44 50 11",
-        "5 times read odds 10+more;sizes 50+luck;seen 5;", "32 times feed 5 120 120 120 120 120", "image", "row 2 1 5 6");
+        "5 times read odds 10+more;sizes 50+luck;seen 5;", "32 times feed 5 120 120 120 120 120", "image", "row 0 1 5 6");
 
     private final String[] steps;
     private List<String> look = null;
@@ -23,6 +23,11 @@ final class Scene {
         List<String> all = new ArrayList<>(List.of(steps));
         all.addAll(List.of(more));
         return new Scene(all.toArray(new String[0]));
+    }
+
+    /** An image, a SHEET and bytes on THE TAPE are there, too: whatever is done to them shows. */
+    Scene furnished() {
+        return then("image", "row 0 2 5 6", "type odds 7;sizes 8;seen 9");
     }
 
     Play play() {
@@ -65,6 +70,21 @@ final class Scene {
             }
         }
         Due.isTrue(promise, told(call) + " changed nothing", true);
+    }
+
+    /** The call answers this, and behind it the object looks otherwise than its twin just so as is told ("count 3 = 7"). */
+    void changes(int promise, String call, long want, String... told) {
+        if (look == null) {
+            look = Look.at(play());
+        }
+        Play p = play();
+        Due.is(promise, told(call), p.answer(call), want);
+        List<String> other = new ArrayList<>(Look.at(p));
+        for (String row : look) {
+            other.remove(row);
+        }
+        List<String> due = new ArrayList<>(List.of(told));
+        Due.isTrue(promise, told(call) + " changed " + other + ", due is " + due, other.equals(due));
     }
 
     /**

@@ -352,6 +352,7 @@ final class ToldEdges {
         Scene.TOWN.answers(38, "image", 3);
         Scene.FULL.unchanged(38, "image", 5);
         Scene.NEW.unchanged(39, "back", -3);
+        Scene.NEW.then("life 0 0 0", "row 0 2 5 6", "type odds 7;sizes 8;seen 9").unchanged(39, "back", -3);
         Scene.NEW.then("life 0 0 0", "live 0").unchanged(39, "back", -3);
         Scene.NEW.then("image").unchanged(39, "back", 0);
         Scene.NEW.then("image", "life 0 0 0", "back").unchanged(39, "back", 0);

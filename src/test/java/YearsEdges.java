@@ -31,9 +31,9 @@ final class YearsEdges {
             HALF.answers(13, "mean 0 " + n + " 0", above[n]);
             HALF.answers(13, "mean 0 " + n + " 1", below[n]);
         }
-        HALF.ends(13, "mean # 1 0", 0, 45, 1, 45, NO);
-        HALF.ends(13, "mean 0 # 0", 0, 0, 6, 135, NO);
-        HALF.ends(13, "mean 0 1 #", 0, 45, 1, 2, NO);
+        HALF.furnished().ends(13, "mean # 1 0", 0, 45, 1, 45, NO);
+        HALF.furnished().ends(13, "mean 0 # 0", 0, 0, 6, 135, NO);
+        HALF.furnished().ends(13, "mean 0 1 #", 0, 45, 1, 2, NO);
         Scene.FULL.ends(13, "mean # 0 1", 0, 1, 4, 1, NO);
         Scene.NEW.unchanged(13, "mean 0 0 0", NO);
         Scene.TOWN.unchanged(13, "mean 0 1 0", 84);
@@ -48,9 +48,9 @@ final class YearsEdges {
             HALF.answers(14, "keeps 0 " + n + " 0", above[n]);
             HALF.answers(14, "keeps 0 " + n + " 1", below[n]);
         }
-        HALF.ends(14, "keeps # 1 0", 0, 55, 1, 55, NO);
-        HALF.ends(14, "keeps 0 # 0", 0, 0, 6, 165, NO);
-        HALF.ends(14, "keeps 0 1 #", 0, 55, 1, 2, NO);
+        HALF.furnished().ends(14, "keeps # 1 0", 0, 55, 1, 55, NO);
+        HALF.furnished().ends(14, "keeps 0 # 0", 0, 0, 6, 165, NO);
+        HALF.furnished().ends(14, "keeps 0 1 #", 0, 55, 1, 2, NO);
         Scene.NEW.unchanged(14, "keeps 0 0 0", NO);
         Scene.TOWN.unchanged(14, "keeps 0 1 0", 106);
         Scene.TOWN.unchanged(14, "keeps 0 1 1", 5);
@@ -77,10 +77,10 @@ final class YearsEdges {
                 HALF.answers(15, "likely 0 " + n + " " + times + " 1", below);
             }
         }
-        HALF.ends(15, "likely # 1 1 1", 0, 2, 1, 2, NO);
-        HALF.ends(15, "likely 0 # 0 1", 0, 1, 6, 64, NO);
-        HALF.ends(15, "likely 0 6 # 1", 0, 64, 6, 64, NO);
-        HALF.ends(15, "likely 0 1 1 #", 0, 1, 1, 2, NO);
+        HALF.furnished().ends(15, "likely # 1 1 1", 0, 2, 1, 2, NO);
+        HALF.furnished().ends(15, "likely 0 # 0 1", 0, 1, 6, 64, NO);
+        HALF.furnished().ends(15, "likely 0 6 # 1", 0, 64, 6, 64, NO);
+        HALF.furnished().ends(15, "likely 0 1 1 #", 0, 1, 1, 2, NO);
         Scene.NEW.unchanged(15, "likely 0 0 0 0", NO);
         Scene.TOWN.unchanged(15, "likely 0 1 1 0", 2);
         Scene.TOWN.unchanged(15, "likely 0 1 1 1", 5);
@@ -179,8 +179,8 @@ final class YearsEdges {
 
     private static void fairs() {
         // The least whole number that is no less than TAKEN IN THE MEAN by n (1 .. 6). NO: none such.
-        HALF.ends(16, "fair 0 #", 1, 23, 6, 23, NO);
-        HALF.ends(16, "fair # 2", 0, 23, 1, 23, NO);
+        HALF.furnished().ends(16, "fair 0 #", 1, 23, 6, 23, NO);
+        HALF.furnished().ends(16, "fair # 2", 0, 23, 1, 23, NO);
         Scene.NEW.unchanged(16, "fair 0 1", NO);
         Scene.TOWN.unchanged(16, "fair 0 1", 17);
         int[][] so = {{1, 1, 1}, {99, 1, 1}, {100, 1, 1}, {100, 2, 2}, {50, 2, 1}, {51, 2, 2}, {50, 3, 2}, {1, 100, 1}, {1, 101, 2}, {1, 99, 1},
@@ -201,10 +201,10 @@ final class YearsEdges {
 
     private static void excesses() {
         // EXCESSES 0, 10, .. 990. -5: no such LIFE; -7: n, goalOf.
-        HALF.ends(17, "excess 0 # 0", 1, 0, 6, 0, -7);
-        HALF.ends(17, "excess 0 # 1", 1, 100, 6, 100, -7);
-        HALF.ends(17, "excess 0 1 #", 0, 0, 1, 100, -7);
-        HALF.ends(17, "excess # 1 1", 0, 100, 1, 100, -5);
+        HALF.furnished().ends(17, "excess 0 # 0", 1, 0, 6, 0, -7);
+        HALF.furnished().ends(17, "excess 0 # 1", 1, 100, 6, 100, -7);
+        HALF.furnished().ends(17, "excess 0 1 #", 0, 0, 1, 100, -7);
+        HALF.furnished().ends(17, "excess # 1 1", 0, 100, 1, 100, -5);
         Scene.NEW.unchanged(17, "excess 0 1 0", -5);
         Scene.TOWN.unchanged(17, "excess 0 1 0", 0);
         Scene.TOWN.unchanged(17, "excess 0 1 1", 100);
@@ -240,9 +240,9 @@ final class YearsEdges {
     private static void whos() {
         // n (1 .. 6); of like ones the first; -1: there are none. BAD.
         Scene s = new Scene("life 29 0 0", "life 0 0 0", "life 0 0 0", "life 11 0 0", "law odds 50;sizes 100;seen 0;");
-        s.ends(18, "who # 0", 1, 1, 6, 1, -2);
-        s.ends(18, "who # 1", 1, 3, 6, 3, -2);
-        s.ends(18, "who 1 #", 0, 1, 1, 3, -2);
+        s.furnished().ends(18, "who # 0", 1, 1, 6, 1, -2);
+        s.furnished().ends(18, "who # 1", 1, 3, 6, 3, -2);
+        s.furnished().ends(18, "who 1 #", 0, 1, 1, 3, -2);
         Scene.TOWN.unchanged(18, "who 1 0", 0);
         Scene.TOWN.unchanged(18, "who 1 1", 1);
         for (int n = 1; n <= 6; n++) {
