@@ -17,12 +17,16 @@ final class LawEdges {
         sixTexts();
         aFaultEmptiesTheTape();
         wordsAreAsLongAsCanBe();
+        wordsThatAreNeither();
+        keysAndNamesInTheirPlaces();
         numbersAreAsLongAsCanBe();
         eachByteBehindANumber();
         eachByteWithinAWord();
         blanksMayStandBetween();
         textsThatEndTooEarly();
+        textsThatEndWithTheTape();
         theFirstTokenThatCantStandThere();
+        whatAnEIsMadeOf();
         sixOpen();
         whatOpensEnds();
         anEIsAnInt();
@@ -231,6 +235,9 @@ final class LawEdges {
         fineE("1 or1");
         fineE("year<luck");
         fineE("(year)or(luck)and(more)");
+    }
+
+    private static void wordsThatAreNeither() {
         // A WORD that is neither KEY nor NAME.
         String[] neither = {"a", "z", "abc", "yea", "years", "yeart", "lucky", "mor", "mores", "exces", "excesss", "shar", "shares",
             "muc", "muchh", "o", "orr", "an", "ands", "no", "nott", "odd", "oddss", "size", "sizess", "see", "seens"};
@@ -253,6 +260,9 @@ final class LawEdges {
                 faultE(word.substring(0, i) + "q" + word.substring(i + 1), 0);
             }
         }
+    }
+
+    private static void keysAndNamesInTheirPlaces() {
         // A KEY where a NAME is due, and a NAME where a KEY is.
         for (String key : new String[] {"odds", "sizes", "seen", "or", "and"}) {
             faultE(key, 0);
@@ -368,6 +378,9 @@ final class LawEdges {
         text.append("8");
         fault(text.toString(), text.length());
         fine(text + ";");
+    }
+
+    private static void textsThatEndWithTheTape() {
         // It ends behind its 160th byte, too.
         StringBuilder full = new StringBuilder("odds 1");
         while (full.length() < 160) {
@@ -411,6 +424,9 @@ final class LawEdges {
         fault("odds ! (((((((1", 5);
         fault("odds 12345 !;", 5);
         fault("odds 1;sises 12345;", 7);
+    }
+
+    private static void whatAnEIsMadeOf() {
         // NOT: SUM, perhaps < or = and a SUM: one of these, not two.
         faultE("1<2<3", 3);
         faultE("1<2=3", 3);
