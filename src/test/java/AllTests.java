@@ -4,8 +4,23 @@ public final class AllTests {
     }
 
     public static void main(String[] args) {
+        String root = args.length > 0 ? args[0] : ".";
         EdgeTest.run();
-        int withoutEdges = Due.unlooked();
+        allLookedAt("the edges");
+        sections();
+        allLookedAt("the sections' tests");
+        FaceTest.run();
+        RoomTest.run();
+        SourceTest.run(root);
+        ReadmeTest.run(root);
+        RandomTest.run();
+        System.out.println(Due.passed() + " passed, " + Due.failed() + " failed");
+        if (Due.failed() != 0) {
+            System.exit(1);
+        }
+    }
+
+    private static void sections() {
         LawTest.run();
         LivesTest.run();
         YearsTest.run();
@@ -15,16 +30,11 @@ public final class AllTests {
         LotsTest.run();
         ToldTest.run();
         HostTest.run();
-        FaceTest.run();
-        RoomTest.run();
-        SourceTest.run(args.length > 0 ? args[0] : ".");
-        RandomTest.run();
-        if (withoutEdges != 0) {
-            System.out.println("no edge is looked at of promise " + withoutEdges);
-        }
-        System.out.println(Due.passed() + " passed, " + Due.failed() + " failed");
-        if (Due.failed() != 0 || withoutEdges != 0) {
-            System.exit(1);
-        }
+    }
+
+    private static void allLookedAt(String by) {
+        int unlooked = Due.unlooked();
+        Due.lookAfresh();
+        Due.is(unlooked, "the first promise at which " + by + " don't look", unlooked, 0);
     }
 }

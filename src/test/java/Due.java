@@ -1,3 +1,5 @@
+import java.util.Arrays;
+
 /** Counts and prints the answers that are not as due, and which promises were looked at. */
 final class Due {
     static final int PROMISES = 44;
@@ -27,6 +29,10 @@ final class Due {
 
     static int failed() {
         return failed;
+    }
+
+    static void lookAfresh() {
+        Arrays.fill(checks, 0);
     }
 
     /** The first promise that no check looked at; 0: each was. */
